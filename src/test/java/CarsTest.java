@@ -11,6 +11,8 @@ public final class CarsTest {
         queues();
         here();
         hereByDraws();
+        hereBySeeds();
+        lawsWithoutWaiting();
         CHECK.end();
     }
 
@@ -216,6 +218,56 @@ public final class CarsTest {
                 }
             }
             due("17: the seed stays", x.set(5, seed), seed);
+        }
+    }
+
+    /** The lowest byte that a draw's sum loses: a seed of 1 more tells only where it is 255. */
+    private static int lost(int j, int seed) {
+        return (int) (((j + 1) * 1103515245L + 12345L + seed) & 255);
+    }
+
+    /** Cars whose draws become 1 more behind a few seeds, and a law by which only the lower one stops. */
+    private static void hereBySeeds() {
+        int[] seeds = {0, 4711, Integer.MAX_VALUE - 2, Integer.MIN_VALUE};
+        for (int seed : seeds) {
+            for (int few = 1; few <= 36; few += 5) {
+                int j = 0;
+                while (lost(j, seed) != 256 - few || draw(0, j, seed) == 999) {
+                    j++;
+                }
+                ThumbOut x = new ThumbOut();
+                x.place(50);
+                x.place(50);
+                x.road(1, 60, 100);
+                x.set(5, seed);
+                x.force(Check.law(x, "" + (draw(0, j, seed) + 1)));
+                for (int n = 1; n <= 40; n++) {
+                    int hits = Math.min(n, few);
+                    int common = n;
+                    while (hits % common != 0 || n % common != 0) {
+                        common--;
+                    }
+                    fraction("few seeds of " + n, x, j, 10000 * n, hits / common, n / common);
+                }
+            }
+        }
+    }
+
+    /** Laws know of no waiting and no goal, also when the rule was asked about them just before. */
+    private static void lawsWithoutWaiting() {
+        String[] laws = {"(m=0)*1000", "(a=0)*1000", "(b=0)*1000"};
+        for (String law : laws) {
+            ThumbOut x = new ThumbOut();
+            x.place(50);
+            x.place(50);
+            x.place(50);
+            x.road(1, 1, 700);
+            x.road(12, 1, 900);
+            x.set(0, 2);
+            x.force(Check.law(x, law));
+            Check.rule(x, "m>150");
+            // in at 180 and, from 187 on, at 360
+            due("18: " + law, x.goes(1, -1), 369);
         }
     }
 }

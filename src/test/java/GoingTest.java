@@ -14,6 +14,7 @@ public final class GoingTest {
         begin();
         two();
         byDraws();
+        bySeeds();
         safe();
         never();
         CHECK.end();
@@ -261,15 +262,8 @@ public final class GoingTest {
         }
     }
 
-    /** The first minute from one on in which a car of the one road stops with 300 in 1000, and 7 minutes; -2. */
     private static int arrives(int since, int seed) {
-        for (int j = since; j < 1440; j++) {
-            long sum = (j + 1) * 1103515245L + 12345L + seed;
-            if (((sum & 0xffffffffL) >> 8) % 1000 < 300) {
-                return j + 7;
-            }
-        }
-        return -2;
+        return arrives(since, seed, 300);
     }
 
     private static void byDraws() {
@@ -305,6 +299,53 @@ public final class GoingTest {
         x.set(5, 5);
         due("24: one of the two is never", x.two(last + 1, 0), ThumbOut.NOT);
         due("24: together is by the seed", x.two(last + 1, 1), first ? ThumbOut.NOT : arrives(last + 1, 5));
+    }
+
+    /** The first minute in which a car of the one road stops by a bar, and 7 minutes. */
+    private static int arrives(int since, int seed, int bar) {
+        for (int j = since; j < 1440; j++) {
+            if (draw(j, seed) < bar) {
+                return j + 7;
+            }
+        }
+        return -2;
+    }
+
+    private static int draw(int j, int seed) {
+        return (int) ((((j + 1) * 1103515245L + 12345L + seed) & 0xffffffffL) / 256 % 1000);
+    }
+
+    /** A car that stops by the first few seeds alone, as their sums end in bytes up to 255. */
+    private static void bySeeds() {
+        for (int few = 1; few <= 6; few++) {
+            int seed = 1000 * few;
+            int j = 0;
+            while (((j + 1) * 1103515245L + 12345L + seed & 255) != 256 - few || draw(j, seed) == 999) {
+                j++;
+            }
+            int bar = draw(j, seed) + 1;
+            ThumbOut x = new ThumbOut();
+            x.place(50);
+            x.place(50);
+            x.road(1, 60, 700);
+            x.set(0, 1);
+            x.set(5, seed);
+            x.force(Check.law(x, "" + bar));
+            int one = arrives(j, seed, bar);
+            int other = arrives(j, seed + 1, bar);
+            due("24: apart, few " + few, x.two(j, 0), one < 0 || other < 0 ? ThumbOut.NOT : Math.max(one, other));
+            due("24: together, few " + few, x.two(j, 1), one);
+            x.set(5, seed + few - 1);
+            due("24: apart, the last of them", x.two(j, 0), arrives(j, seed + few, bar));
+            x.set(5, seed);
+            x.set(1, j + 7);
+            due("26: these seeds", x.safe(j, few), 0);
+            due("26: and one more", x.safe(j, few + 1), ThumbOut.NOT);
+            due("19: these above", x.dark(j, few + 1, 0), few);
+            due("19: these below", x.dark(j, few + 1, 1), few + 1);
+            due("19: half above", x.dark(j, 2 * few, 0), 1);
+            due("19: half below", x.dark(j, 2 * few, 1), 2);
+        }
     }
 
     private static void safe() {

@@ -13,6 +13,7 @@ public final class LandTest {
         distances();
         undoing();
         manyChanges();
+        manyUnlikeChanges();
         CHECK.end();
     }
 
@@ -250,5 +251,33 @@ public final class LandTest {
         }
         due("29: no more", x.redo(), ThumbOut.STATE);
         due("29: all again", x.of(0, 11), 43);
+    }
+
+    /** More changes than are kept, of rooms, flows and dangers by turns: each comes back as it was. */
+    private static void manyUnlikeChanges() {
+        ThumbOut x = pair();
+        x.road(10, 20, 700);
+        int[][] was = new int[50][];
+        for (int i = 0; i < 50; i++) {
+            was[i] = new int[] {x.of(0, 0), x.of(1, 0), x.of(0, 11), x.of(1, 11), x.of(0, 13), x.of(1, 13)};
+            x.mend(i / 3 % 2, i % 3, 1 + i % 9);
+        }
+        int[] last = {x.of(0, 0), x.of(1, 0), x.of(0, 11), x.of(1, 11), x.of(0, 13), x.of(1, 13)};
+        for (int i = 49; i >= 10; i--) {
+            due("28: undo", x.undo(), i - 10);
+            stands("28: before " + i, x, was[i]);
+        }
+        due("28: no more", x.undo(), ThumbOut.STATE);
+        for (int i = 10; i < 50; i++) {
+            due("29: redo", x.redo(), 49 - i);
+            stands("29: behind " + i, x, i == 49 ? last : was[i + 1]);
+        }
+    }
+
+    private static void stands(String call, ThumbOut x, int[] due) {
+        int[] is = {x.of(0, 0), x.of(1, 0), x.of(0, 11), x.of(1, 11), x.of(0, 13), x.of(1, 13)};
+        for (int i = 0; i < is.length; i++) {
+            due(call + ": value " + i, is[i], due[i]);
+        }
     }
 }

@@ -153,7 +153,9 @@ public final class ModelTest {
             addRoad();
         }
         // by these all kinds of laws come to be in force, also such by which many cars stop
-        if (often(70)) {
+        if (often(30) && !m.roads.isEmpty()) {
+            lawOnTheEdge();
+        } else if (often(70)) {
             text(true, often(50) ? "1000-d*" + draw(9) : often(50) ? "r*" + (20 + draw(90)) + "-d" : text());
             force(0);
         }
@@ -167,6 +169,17 @@ public final class ModelTest {
                 change(draw(13));
             }
         }
+    }
+
+    /** A law by which a car stops by this seed, but not by one of the next few. */
+    private void lawOnTheEdge() {
+        int road = draw(m.roads.size());
+        int j = draw(m.of(road, 14));
+        long lost = (j + 1) * 1103515245L + (road + 1) * 12345L & 255;
+        int seed = (int) (255 - lost - draw(4));
+        due("set(5, " + seed + ")", x.set(5, seed), m.set(5, seed));
+        text(true, "" + (m.car(road, j, 1) + 1));
+        force(0);
     }
 
     private void addPlace() {

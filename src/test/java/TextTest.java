@@ -205,6 +205,13 @@ public final class TextTest {
         lines("0?5;0?6", 0);
         lines("0?5;0?6;1?7;8", 7);
         lines("1?0;6", 0);
+        StringBuilder ones = new StringBuilder("10");
+        for (int i = 0; i < 59; i++) {
+            ones.append("+1");
+        }
+        lines(ones.toString(), 69);
+        lines("1000*(0|1&1<1+1*(0|1&1<1+1*(0|1&1<1+1*(0|1&1<1+1*(0|1&1<1+1*(0|1&1<1+1*1))))))", 1000);
+        lines("1000*(0|1&1<1+1*(0|1&1<1+1*(0|1&1<1+1*(0|1&1<1+1*(0|1&1<1+1*(0|1&1<1-1*1))))))", 0);
     }
 
     /** Lines can't stand in brackets: the value is told by which draws are below it. */
