@@ -872,6 +872,7 @@ public final class ThumbOut {
                 } else if (step == END) {
                     return stack[top - 1];
                 } else if (step < 0) {
+                    // Only forward, so that the loop ends.
                     top--;
                     if (stack[top] == 0) {
                         at = Math.max(at, -step - 1);
@@ -1335,7 +1336,7 @@ public final class ThumbOut {
             0, 0, 0, 50,
             0, 0, 60, 61,
             70, 0, 0, 0,
-            81, 80, 0, 0,
+            81, 80, 0, 0
         };
 
         final int[] kinds = new int[BODIES];
