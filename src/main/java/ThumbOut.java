@@ -110,8 +110,11 @@ public final class ThumbOut {
             return BAD;
         }
         int was = land.valueOf(number, what);
-        land.change(number, what, v);
-        changes.note(number, what, was, v);
+        // A value that stays as it was is no change: none to undo, and none that came behind those undone.
+        if (v != was) {
+            land.change(number, what, v);
+            changes.note(number, what, was, v);
+        }
         return was;
     }
 

@@ -12,6 +12,7 @@ public final class LandTest {
         asking();
         distances();
         undoing();
+        mendingToTheSame();
         manyChanges();
         manyUnlikeChanges();
         CHECK.end();
@@ -233,6 +234,79 @@ public final class LandTest {
         due("29: the other one", x.redo(), 0);
         due("29: its room", x.of(1, 0), 7);
         due("28: what was", x.of(0, 11), 30);
+    }
+
+    /** Mends ROOM, FLOW and DANGER to what they are: none changes, whatever else is done or undone. */
+    private static void mendToTheSame(String when, ThumbOut x) {
+        int done = x.count(4);
+        for (int number = 0; number < 2; number++) {
+            for (int what = 0; what < 3; what++) {
+                int is = x.of(number, what == 0 ? 0 : 10 + (what == 1 ? 1 : 3));
+                String call = when + ": mend(" + number + ", " + what + ", " + is + ")";
+                due(call, x.mend(number, what, is), is);
+                due(call + ": count(4)", x.count(4), done);
+            }
+        }
+    }
+
+    private static void mendingToTheSame() {
+        ThumbOut x = pair();
+        x.road(10, 20, 700);
+        mendToTheSame("7: first", x);
+        due("28: none", x.undo(), ThumbOut.STATE);
+        due("29: none", x.redo(), ThumbOut.STATE);
+        x.mend(0, 0, 1);
+        x.mend(0, 1, 2);
+        x.mend(0, 2, 3);
+        mendToTheSame("7: behind changes", x);
+        due("28: danger", x.undo(), 2);
+        mendToTheSame("7: behind an undo", x);
+        due("29: danger, for nothing came behind", x.redo(), 0);
+        stands("29: danger", x, new int[] {1, 3, 2, 20, 3, 0});
+        x.undo();
+        x.undo();
+        x.undo();
+        mendToTheSame("7: all undone", x);
+        due("29: room", x.redo(), 2);
+        mendToTheSame("7: behind a redo", x);
+        due("29: flow", x.redo(), 1);
+        due("29: danger", x.redo(), 0);
+        due("28: as many as there were", x.count(4), 3);
+        stands("29: all", x, new int[] {1, 3, 2, 20, 3, 0});
+        sameThereAndBack();
+        sameWhenFull();
+    }
+
+    /** Two changes of which the later takes the earlier back are two changes none the less. */
+    private static void sameThereAndBack() {
+        ThumbOut x = pair();
+        x.mend(0, 0, 7);
+        x.mend(0, 0, 5);
+        due("7: there and back", x.count(4), 2);
+        due("28: back", x.undo(), 1);
+        due("28: its room", x.of(0, 0), 7);
+        due("7: as it is now", x.mend(0, 0, 7), 7);
+        due("29: may still be", x.redo(), 0);
+        due("29: its room", x.of(0, 0), 5);
+        due("28: back", x.undo(), 1);
+        due("7: as it becomes by redo()", x.mend(0, 0, 5), 7);
+        due("29: another came behind", x.redo(), ThumbOut.STATE);
+    }
+
+    /** With as many changes kept as may be, a value that stays pushes none of them out. */
+    private static void sameWhenFull() {
+        ThumbOut x = pair();
+        x.road(10, 20, 700);
+        for (int i = 1; i <= 40; i++) {
+            x.mend(1, 1, 20 + i);
+        }
+        mendToTheSame("7: full", x);
+        for (int i = 39; i >= 0; i--) {
+            due("28: undo", x.undo(), i);
+        }
+        due("28: the first one too", x.of(1, 11), 20);
+        mendToTheSame("7: full and undone", x);
+        due("29: the first one again", x.redo(), 39);
     }
 
     private static void manyChanges() {

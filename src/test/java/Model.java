@@ -97,6 +97,9 @@ final class Model {
             return -1;
         }
         int was = change(number, what, v);
+        if (was == v) {
+            return was;
+        }
         done.add(new int[] {number, what, was, v});
         if (done.size() > 40) {
             done.remove(0);
