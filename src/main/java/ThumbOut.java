@@ -120,20 +120,20 @@ public final class ThumbOut {
 
     public int of(int number, int what) {
         if (what >= 0 && what <= 1 && land.hasPlace(number)) {
-            return what == 0 ? land.room[number] : land.pumps[number];
+            return what == 0 ? land.roomOf(number) : land.pumpsOf(number);
         }
         if (!land.hasRoad(number)) {
             return BAD;
         }
         switch (what) {
             case 10:
-                return 10 * land.from[number] + land.to[number];
+                return 10 * land.startOf(number) + land.endOf(number);
             case 11:
-                return land.flow[number];
+                return land.flowOf(number);
             case 12:
-                return land.length[number];
+                return land.minutesOf(number);
             case 13:
-                return land.danger[number];
+                return land.dangerOf(number);
             case 14:
                 return land.cars(number);
             default:
@@ -303,8 +303,8 @@ public final class ThumbOut {
             return STATE;
         }
         int minute = land.passes(road, j);
-        int byRiding = trip.arrival(land.to[road], minute + land.length[road]);
-        int byWaiting = trip.arrival(land.from[road], minute + 1);
+        int byRiding = trip.arrival(land.endOf(road), minute + land.minutesOf(road));
+        int byWaiting = trip.arrival(land.startOf(road), minute + 1);
         return byRiding != NEVER && byRiding <= byWaiting ? 1 : 0;
     }
 
@@ -414,7 +414,7 @@ public final class ThumbOut {
     public int never() {
         land.measureTo(settings[GOAL], distances);
         int bits = 0;
-        for (int place = 0; place < land.places; place++) {
+        for (int place = 0; place < PLACES && land.hasPlace(place); place++) {
             if (distances[place] == UNREACHED) {
                 bits |= 1 << place;
             }
@@ -631,14 +631,14 @@ public final class ThumbOut {
 
         int places;
         int roads;
-        final int[] room = new int[PLACES];
-        final int[] pumps = new int[PLACES];
-        final int[] from = new int[ROADS];
-        final int[] to = new int[ROADS];
-        final int[] flow = new int[ROADS];
-        final int[] length = new int[ROADS];
-        final int[] danger = new int[ROADS];
-        final int[] foot = new int[PLACES * PLACES];
+        private final int[] room = new int[PLACES];
+        private final int[] pumps = new int[PLACES];
+        private final int[] from = new int[ROADS];
+        private final int[] to = new int[ROADS];
+        private final int[] flow = new int[ROADS];
+        private final int[] length = new int[ROADS];
+        private final int[] danger = new int[ROADS];
+        private final int[] foot = new int[PLACES * PLACES];
 
         boolean hasPlace(int place) {
             return place >= 0 && place < places && place < PLACES;
@@ -656,9 +656,37 @@ public final class ThumbOut {
             return hasRoad(road) && j >= 0 && j < cars(road);
         }
 
+        int roomOf(int place) {
+            return hasPlace(place) ? room[place] : 0;
+        }
+
+        int pumpsOf(int place) {
+            return hasPlace(place) ? pumps[place] : 0;
+        }
+
+        int startOf(int road) {
+            return hasRoad(road) ? from[road] : -1;
+        }
+
+        int endOf(int road) {
+            return hasRoad(road) ? to[road] : -1;
+        }
+
+        int flowOf(int road) {
+            return hasRoad(road) ? flow[road] : 0;
+        }
+
+        int minutesOf(int road) {
+            return hasRoad(road) ? length[road] : 0;
+        }
+
+        int dangerOf(int road) {
+            return hasRoad(road) ? danger[road] : 0;
+        }
+
         boolean hasDanger(int value) {
             for (int road = 0; road < roads; road++) {
-                if (danger[road] == value) {
+                if (dangerOf(road) == value) {
                     return true;
                 }
             }
@@ -717,12 +745,9 @@ public final class ThumbOut {
 
         int valueOf(int number, int what) {
             if (what == ROOM) {
-                return hasPlace(number) ? room[number] : 0;
+                return roomOf(number);
             }
-            if (!hasRoad(number)) {
-                return 0;
-            }
-            return what == FLOW ? flow[number] : danger[number];
+            return what == FLOW ? flowOf(number) : dangerOf(number);
         }
 
         void change(int number, int what, int v) {
@@ -739,17 +764,17 @@ public final class ThumbOut {
         }
 
         int cars(int road) {
-            return HOURS * flow[road];
+            return HOURS * flowOf(road);
         }
 
         int passes(int road, int j) {
-            int perHour = flow[road];
+            int perHour = flowOf(road);
             return perHour < 1 ? DAY : 60 * j / perHour;
         }
 
         /** The first car that passes in a minute or later; there may be none of this number. */
         int firstCarSince(int road, int minute) {
-            return (minute * flow[road] + 59) / 60;
+            return (minute * flowOf(road) + 59) / 60;
         }
 
         /** How far it is to a place from each one. */
@@ -763,9 +788,14 @@ public final class ThumbOut {
             for (int round = 0; round < places && nearer; round++) {
                 nearer = false;
                 for (int road = 0; road < roads; road++) {
-                    int by = into[to[road]] + length[road];
-                    if (by < into[from[road]]) {
-                        into[from[road]] = by;
+                    int start = startOf(road);
+                    int end = endOf(road);
+                    if (!hasPlace(start) || !hasPlace(end)) {
+                        continue;
+                    }
+                    int by = into[end] + minutesOf(road);
+                    if (by < into[start]) {
+                        into[start] = by;
                         nearer = true;
                     }
                 }
@@ -1165,22 +1195,22 @@ public final class ThumbOut {
         }
 
         private int habit(int road) {
-            int shared = 10 * land.room[land.from[road]] + 10;
+            int shared = 10 * land.roomOf(land.startOf(road)) + 10;
             if (persons > 0) {
                 shared /= persons;
             }
-            return shared - 5 * wet + (land.to[road] == sign ? 20 : 0);
+            return shared - 5 * wet + (land.endOf(road) == sign ? 20 : 0);
         }
 
         /** The facts that laws and the rule share; for laws the other ones are 0. */
         private void noteFacts(int road, int hour) {
-            facts[0] = land.room[land.from[road]];
-            facts[1] = land.pumps[land.from[road]];
+            facts[0] = land.roomOf(land.startOf(road));
+            facts[1] = land.pumpsOf(land.startOf(road));
             facts[2] = hour;
             facts[3] = persons;
             facts[4] = wet;
-            facts[5] = land.to[road] == sign ? 1 : 0;
-            facts[6] = land.danger[road];
+            facts[5] = land.endOf(road) == sign ? 1 : 0;
+            facts[6] = land.dangerOf(road);
             facts[7] = 0;
             facts[8] = 0;
             facts[9] = 0;
@@ -1195,21 +1225,25 @@ public final class ThumbOut {
                 return gates.valueAt(road, hour) != 0;
             }
             noteFacts(road, hour);
-            facts[7] = toGoal[land.to[road]];
-            facts[8] = toGoal[land.from[road]];
+            facts[7] = goalFrom(land.endOf(road));
+            facts[8] = goalFrom(land.startOf(road));
             facts[Text.WAITED] = waited;
             int value = rule.worth(facts);
             gates.learn(road, hour, value);
             return value != 0;
         }
 
+        private int goalFrom(int place) {
+            return place >= 0 && place < PLACES ? toGoal[place] : UNREACHED;
+        }
+
         private boolean leadsNearer(int road) {
-            return toGoal[land.to[road]] < toGoal[land.from[road]];
+            return goalFrom(land.endOf(road)) < goalFrom(land.startOf(road));
         }
 
         /** Whether any car of a road may take one along; those of the others need no look. */
         private boolean mayTake(int road, int place) {
-            return land.from[road] == place && land.danger[road] <= mostDanger
+            return land.startOf(road) == place && land.dangerOf(road) <= mostDanger
                     && (rule != null || leadsNearer(road));
         }
 
@@ -1242,7 +1276,7 @@ public final class ThumbOut {
             int had = 0;
             int before = DAY;
             for (int road = 0; road < land.roads; road++) {
-                if (land.from[road] != place) {
+                if (land.startOf(road) != place) {
                     continue;
                 }
                 int j = nextStop(road, land.firstCarSince(road, since), before);
@@ -1303,8 +1337,8 @@ public final class ThumbOut {
                 }
                 ridden[i] = road;
                 rides = i + 1;
-                minute = boarded + land.length[road];
-                place = land.to[road];
+                minute = boarded + land.minutesOf(road);
+                place = land.endOf(road);
             }
             return place == goal ? minute : NEVER;
         }

@@ -163,12 +163,14 @@ public final class ActsTest {
 
     private static void acts() {
         int[] values = {0, 1, -1, 5, 1000003, Integer.MAX_VALUE, Integer.MIN_VALUE};
-        ThumbOut x = new ThumbOut();
         for (int number = 0; number < 50; number++) {
+            ThumbOut x = new ThumbOut();
+            for (int i = 0; i <= number; i++) {
+                x.body((i + i / 8) % 8);
+            }
             int kind = (number + number / 8) % 8;
             Wait body = made(kind);
             body.n = number;
-            x.body(kind);
             for (int act = 0; act < 4; act++) {
                 int v = values[(number * 4 + act) % values.length];
                 String call = "31: act(" + number + ", " + act + ", " + v + ") of kind " + kind;

@@ -39,6 +39,31 @@ final class Check {
         return feed(x, text).rule();
     }
 
+    /** The seed by which a car of a road has a sum of which its draw is worked out. */
+    static int seed(int road, int j, int sum) {
+        return (int) (sum - (j + 1) * 1103515245L - (road + 1) * 12345L);
+    }
+
+    /** Sets the seed so that a car of a road has a draw (0 .. 999) that the next 255 seeds leave as it is. */
+    static void draw(ThumbOut x, int road, int j, int draw) {
+        x.set(5, seed(road, j, 256 * draw));
+    }
+
+    /** An object with some places of room 5 without pumps. */
+    static ThumbOut places(int n) {
+        ThumbOut x = new ThumbOut();
+        for (int i = 0; i < n; i++) {
+            x.place(50);
+        }
+        return x;
+    }
+
+    /** Makes a text a law and puts it in force. */
+    static ThumbOut force(ThumbOut x, String text) {
+        x.force(law(x, text));
+        return x;
+    }
+
     /** Puts a row on a shelf. */
     static void row(ThumbOut x, int shelf, int sort, long... elements) {
         x.row(shelf, sort, elements.length);

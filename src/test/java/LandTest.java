@@ -329,23 +329,37 @@ public final class LandTest {
 
     /** More changes than are kept, of rooms, flows and dangers by turns: each comes back as it was. */
     private static void manyUnlikeChanges() {
-        ThumbOut x = pair();
-        x.road(10, 20, 700);
-        int[][] was = new int[50][];
+        int[][] was = new int[51][];
+        was[0] = new int[] {5, 3, 30, 20, 10, 0};
         for (int i = 0; i < 50; i++) {
-            was[i] = new int[] {x.of(0, 0), x.of(1, 0), x.of(0, 11), x.of(1, 11), x.of(0, 13), x.of(1, 13)};
-            x.mend(i / 3 % 2, i % 3, 1 + i % 9);
+            was[i + 1] = was[i].clone();
+            was[i + 1][i % 3 * 2 + i / 3 % 2] = 1 + i % 9;
         }
-        int[] last = {x.of(0, 0), x.of(1, 0), x.of(0, 11), x.of(1, 11), x.of(0, 13), x.of(1, 13)};
+        ThumbOut x = mendedOften();
         for (int i = 49; i >= 10; i--) {
             due("28: undo", x.undo(), i - 10);
             stands("28: before " + i, x, was[i]);
         }
         due("28: no more", x.undo(), ThumbOut.STATE);
-        for (int i = 10; i < 50; i++) {
-            due("29: redo", x.redo(), 49 - i);
-            stands("29: behind " + i, x, i == 49 ? last : was[i + 1]);
+        ThumbOut y = mendedOften();
+        for (int i = 0; i < 40; i++) {
+            y.undo();
         }
+        for (int i = 10; i < 50; i++) {
+            due("29: redo", y.redo(), 49 - i);
+            stands("29: behind " + i, y, was[i + 1]);
+        }
+        due("29: no more", y.redo(), ThumbOut.STATE);
+    }
+
+    /** 50 changes, by turns of 9 values, none of which is there already. */
+    private static ThumbOut mendedOften() {
+        ThumbOut x = pair();
+        x.road(10, 20, 700);
+        for (int i = 0; i < 50; i++) {
+            x.mend(i / 3 % 2, i % 3, 1 + i % 9);
+        }
+        return x;
     }
 
     private static void stands(String call, ThumbOut x, int[] due) {

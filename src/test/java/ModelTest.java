@@ -1,13 +1,16 @@
 /** Runs of many calls, drawn by a fixed row of numbers, each answer beside the one of the model. */
 public final class ModelTest {
     private static final Check CHECK = new Check("ModelTest");
-    private static final int RUNS = 120;
-    private static final int CALLS = 250;
+    private static final int RUNS = 150;
+
+    /** An object is asked no further than this: a text and what asks for it are at most 122 calls more. */
+    private static final int CALLS = 512 - 122;
 
     private long state;
     private final ThumbOut x = new ThumbOut();
     private final Model m = new Model();
     private final int run;
+    private int calls;
 
     private ModelTest(int run) {
         this.run = run;
@@ -33,6 +36,7 @@ public final class ModelTest {
     }
 
     private void due(String call, long got, long want) {
+        calls++;
         CHECK.due("run " + run + ": " + call, got, want);
     }
 
@@ -162,7 +166,7 @@ public final class ModelTest {
         if (often(40)) {
             text(false, often(50) ? "a<b&d<" + draw(100) + "|m>" + draw(100) : often(40) ? "1" : text());
         }
-        for (int i = 0; i < CALLS; i++) {
+        while (calls < CALLS) {
             if (often(55)) {
                 ask(draw(18));
             } else {
@@ -213,6 +217,7 @@ public final class ModelTest {
             row[i] = (short) (sort == 0 ? ab() : sort == 1 ? 1 + draw(20) : sort == 2 ? 1 + draw(90) : draw(100));
         }
         Check.row(x, 1, 1, row);
+        calls += size + 1;
         int at = often(80) ? 4 * draw(3) : draw(31) - 1;
         int n = 1 + draw(5);
         int came = 0;
@@ -362,6 +367,7 @@ public final class ModelTest {
             row[i] = told[i];
         }
         Check.row(x, 0, 2, row);
+        calls += size + 1;
         int minute = minute();
         due("book(0, " + minute + ", 0)", x.book(0, minute, 0), m.book(told, minute, 0));
         due("book(0, " + minute + ", 1)", x.book(0, minute, 1), m.book(told, minute, 1));

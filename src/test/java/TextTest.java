@@ -218,8 +218,11 @@ public final class TextTest {
     private static void lines(String text, int value) {
         ThumbOut x = road(5, 42, 20);
         x.force(Check.law(x, text));
-        for (int j = 0; j < 1440; j += 1 + j % 7) {
-            due("10: " + text + " with draw", x.car(0, j % 1440, 2), x.car(0, j % 1440, 1) < value ? 1 : 0);
+        for (int j = 0; j < 1440; j++) {
+            int draw = ((j + 1) * 1103515245 + 12345 >>> 8) % 1000;
+            if (j % 60 == 0 || Math.abs(draw - value) < 9) {
+                due("10: " + text + " with draw " + draw, x.car(0, j, 2), draw < value ? 1 : 0);
+            }
         }
         Check.rule(x, text);
         x.force(-1);
