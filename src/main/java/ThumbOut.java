@@ -636,7 +636,7 @@ public final class ThumbOut {
         private final int[] from = new int[ROADS];
         private final int[] to = new int[ROADS];
         private final int[] flow = new int[ROADS];
-        private final int[] length = new int[ROADS];
+        private final int[] minutes = new int[ROADS];
         private final int[] danger = new int[ROADS];
         private final int[] foot = new int[PLACES * PLACES];
 
@@ -656,32 +656,34 @@ public final class ThumbOut {
             return hasRoad(road) && j >= 0 && j < cars(road);
         }
 
+        // These look at the row's end alone: that a place or road is there is asked by those who call.
+
         int roomOf(int place) {
-            return hasPlace(place) ? room[place] : 0;
+            return place >= 0 && place < room.length ? room[place] : 0;
         }
 
         int pumpsOf(int place) {
-            return hasPlace(place) ? pumps[place] : 0;
+            return place >= 0 && place < pumps.length ? pumps[place] : 0;
         }
 
         int startOf(int road) {
-            return hasRoad(road) ? from[road] : -1;
+            return road >= 0 && road < from.length ? from[road] : -1;
         }
 
         int endOf(int road) {
-            return hasRoad(road) ? to[road] : -1;
+            return road >= 0 && road < to.length ? to[road] : -1;
         }
 
         int flowOf(int road) {
-            return hasRoad(road) ? flow[road] : 0;
+            return road >= 0 && road < flow.length ? flow[road] : 0;
         }
 
         int minutesOf(int road) {
-            return hasRoad(road) ? length[road] : 0;
+            return road >= 0 && road < minutes.length ? minutes[road] : 0;
         }
 
         int dangerOf(int road) {
-            return hasRoad(road) ? danger[road] : 0;
+            return road >= 0 && road < danger.length ? danger[road] : 0;
         }
 
         boolean hasDanger(int value) {
@@ -703,9 +705,9 @@ public final class ThumbOut {
             return places - 1;
         }
 
-        int addRoad(int ab, int cars, int minutes, int risk) {
+        int addRoad(int ab, int cars, int takes, int risk) {
             if (!hasPair(ab) || ab / 10 == ab % 10 || cars < 1 || cars > MOST_FLOW
-                    || minutes < 1 || minutes > MOST_LONG || risk < 0 || risk > MOST_DANGER) {
+                    || takes < 1 || takes > MOST_LONG || risk < 0 || risk > MOST_DANGER) {
                 return BAD;
             }
             if (roads < 0 || roads >= ROADS) {
@@ -714,7 +716,7 @@ public final class ThumbOut {
             from[roads] = ab / 10;
             to[roads] = ab % 10;
             flow[roads] = cars;
-            length[roads] = minutes;
+            minutes[roads] = takes;
             danger[roads] = risk;
             roads++;
             return roads - 1;
@@ -724,9 +726,9 @@ public final class ThumbOut {
             return hasPlace(a) && hasPlace(b) ? foot[a * PLACES + b] : 0;
         }
 
-        void setOnFoot(int a, int b, int minutes) {
+        void setOnFoot(int a, int b, int takes) {
             if (hasPlace(a) && hasPlace(b)) {
-                foot[a * PLACES + b] = minutes;
+                foot[a * PLACES + b] = takes;
             }
         }
 

@@ -735,6 +735,8 @@ public final class GoingEdgesTest {
         due("24: together by the first seed", x.two(3, 1), 127);
         x.set(5, Check.seed(0, 1, 256000));
         due("24: not the seed before", x.two(3, 0), 67);
+        due("24: both from that minute on", x.two(61, 0), 127);
+        due("24: both behind the last car", x.two(181, 0), NOT);
         x.set(2, 2);
         Check.force(x, "(t=1)*1000");
         due("24: as one", x.two(3, 0), 67);

@@ -46,6 +46,7 @@ public final class LandEdgesTest {
         undoLatestFirst();
         redoNone();
         redoUnlessAnotherCame();
+        undoneAsItWas();
         fortyChanges();
         onlyMendsAreChanges();
         CHECK.end();
@@ -267,7 +268,12 @@ public final class LandEdgesTest {
         }
         for (int a = 0; a < 8; a++) {
             for (int b = a + 1; b < 8; b++) {
-                due("5: this way again", x.walk(10 * a + b, 0), 200 + 10 * a + b);
+                due("5: the same way again", x.walk(10 * b + a, 100 + 10 * a + b), 200 + 10 * a + b);
+            }
+        }
+        for (int a = 0; a < 8; a++) {
+            for (int b = a + 1; b < 8; b++) {
+                due("5: this way again", x.walk(10 * a + b, 0), 100 + 10 * a + b);
                 due("5: none the other way", x.walk(10 * b + a, 0), 0);
             }
         }
@@ -613,6 +619,34 @@ public final class LandEdgesTest {
         due("29: that one may be", x.redo(), 0);
         due("29: its flow", x.of(1, 11), 7);
         due("29: what was lost stays lost", x.of(0, 0), 1);
+    }
+
+    /** "can be UNDONE .. and DONE AGAIN": what stops, passes and is got into is as it was, and as it became. */
+    private static void undoneAsItWas() {
+        ThumbOut x = mended();
+        x.set(0, 1);
+        Check.draw(x, 0, 0, 75);
+        due("7: a draw not below", x.car(0, 0, 2), 0);
+        x.mend(0, 0, 7);
+        due("7: more room", x.car(0, 0, 2), 1);
+        x.undo();
+        due("28: the room that was", x.car(0, 0, 2), 0);
+        x.redo();
+        due("29: more room again", x.car(0, 0, 2), 1);
+        Check.force(x, "1000");
+        x.mend(0, 1, 1);
+        due("7: one car an hour", x.waits(0, 1), 59);
+        x.undo();
+        due("28: 30 cars an hour", x.waits(0, 1), 1);
+        x.redo();
+        due("29: one car an hour", x.waits(0, 1), 59);
+        due("26: by danger 10", x.safe(0, 1), 10);
+        x.mend(0, 2, 60);
+        due("26: by danger 60", x.safe(0, 1), 60);
+        x.undo();
+        due("26: by danger 10 again", x.safe(0, 1), 10);
+        x.redo();
+        due("26: by danger 60 again", x.safe(0, 1), 60);
     }
 
     /** "40 at most are kept." */
