@@ -305,6 +305,8 @@ public final class CarEdgesTest {
         for (int k = 1; k <= 9; k++) {
             due("16: five an hour, the " + k + "-th", x.queue(0, 60, k), k <= 5 ? 60 : 120);
             due("16: of the others none", x.queue(1, 60, k), 59 + k);
+            due("16: five in the last hour, the " + k + "-th", x.queue(0, 1380, k), k <= 5 ? 1380 : NOT);
+            due("16: ten in the last two, the " + k + "-th", x.queue(0, 1320, k), k <= 5 ? 1320 : 1380);
         }
     }
 

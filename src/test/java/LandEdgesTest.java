@@ -619,6 +619,20 @@ public final class LandEdgesTest {
         due("29: that one may be", x.redo(), 0);
         due("29: its flow", x.of(1, 11), 7);
         due("29: what was lost stays lost", x.of(0, 0), 1);
+        ThumbOut y = mended();
+        for (int i = 1; i <= 5; i++) {
+            y.mend(0, 2, 50 + i);
+        }
+        for (int i = 1; i <= 4; i++) {
+            y.undo();
+        }
+        y.mend(1, 2, 7);
+        due("29: another came behind four that were undone", y.redo(), STATE);
+        due("28: it and the first one", y.count(4), 2);
+        due("28: it", y.undo(), 1);
+        due("29: it again, and no more", y.redo(), 0);
+        due("29: none of the four", y.redo(), STATE);
+        due("29: danger of the first one", y.of(0, 13), 51);
     }
 
     /** "can be UNDONE .. and DONE AGAIN": what stops, passes and is got into is as it was, and as it became. */
