@@ -108,7 +108,7 @@ public final class ActsTest {
         }
     }
 
-    private static Wait made(int kind) {
+    static Wait made(int kind) {
         switch (kind) {
             case 0: return new Wait();
             case 1: return new Good();
